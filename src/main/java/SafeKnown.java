@@ -835,7 +835,9 @@ public final class SafeKnown {
 
         void know(int person, int vault, Sieve sieve) {
             int from = wordsOf(person, vault);
-            Arrays.fill(known, from, from + SET_WORDS, 0L);
+            for (int i = from; i < from + SET_WORDS; i++) {
+                known[i] = 0L;
+            }
             for (int i = 0; i < sieve.size; i++) {
                 int code = sieve.list[i];
                 known[from + code / WORD_BITS] |= 1L << code % WORD_BITS;
@@ -844,7 +846,9 @@ public final class SafeKnown {
 
         void knowNothing(int person, int vault) {
             int from = wordsOf(person, vault);
-            Arrays.fill(known, from, from + SET_WORDS - 1, -1L);
+            for (int i = from; i < from + SET_WORDS - 1; i++) {
+                known[i] = -1L;
+            }
             known[from + SET_WORDS - 1] = LAST_WORD;
         }
 
@@ -991,6 +995,7 @@ public final class SafeKnown {
         private static final int FEW = 6;
         // Twelve lines of 99 on each of three wheels: no sound is farther from 0.
         private static final int MOST_SOUND = 12 * 99 * WHEELS;
+        private static final int FLOOR_LIMIT = 1000000000;
 
         final State state;
         final int[] list;
@@ -1001,6 +1006,7 @@ public final class SafeKnown {
         final int[] needed;
         int size;
         int third;
+        int floor;
 
         Sieve(State state) {
             this.state = state;
@@ -1074,45 +1080,55 @@ public final class SafeKnown {
             return pairs[code / SIDES] + state.clicks[third + code % SIDES];
         }
 
-        private void clearTally(int upTo) {
-            for (int i = 0; i < upTo; i++) {
-                tally[slotOf(list[i])] = 0;
+        /** What stands in the tally from earlier counts lies at the floor or below: it is 0 now. */
+        private void startTally() {
+            if (floor >= FLOOR_LIMIT) {
+                Arrays.fill(tally, 0);
+                floor = 0;
             }
+            floor += CODES;
+        }
+
+        /** One more of a sound: how many there are now. */
+        private int countOne(int slot) {
+            tally[slot] = Math.max(tally[slot], floor) + 1;
+            return tally[slot] - floor;
         }
 
         int partsBy(int told) {
             face(told);
+            startTally();
             int parts = 0;
             for (int i = 0; i < size; i++) {
-                int slot = slotOf(list[i]);
-                if (list[i] == told) {
-                    parts++;
-                } else if (tally[slot] == 0) {
-                    tally[slot] = 1;
+                if (list[i] == told || countOne(slotOf(list[i])) == 1) {
                     parts++;
                 }
             }
-            clearTally(size);
             return parts;
         }
 
-        /** How many codes the greatest part has, or the limit as soon as one part has so many. */
+        /**
+         * How many codes the greatest part has, or the limit as soon as one part has so many. It is
+         * asked for each turning and each code by one call, so it counts without calls of its own.
+         */
         int greatestPart(int told, int limit) {
             face(told);
+            startTally();
+            int[] clicks = state.clicks;
             int greatest = 0;
-            int seen = 0;
-            while (seen < size && greatest < limit) {
-                int code = list[seen];
+            for (int i = 0; i < size && greatest < limit; i++) {
+                int code = list[i];
                 int part = 1;
                 if (code != told) {
-                    int slot = slotOf(code);
-                    part = tally[slot] + 1;
-                    tally[slot] = part;
+                    int slot = pairs[code / SIDES] + clicks[third + code % SIDES];
+                    int before = tally[slot];
+                    part = before > floor ? before - floor + 1 : 1;
+                    tally[slot] = floor + part;
                 }
-                greatest = part > greatest ? part : greatest;
-                seen++;
+                if (part > greatest) {
+                    greatest = part;
+                }
             }
-            clearTally(seen);
             return greatest;
         }
 
@@ -1136,11 +1152,12 @@ public final class SafeKnown {
         /** Of the row the least code whose sound most of the row share. */
         int mostShared(int told) {
             face(told);
+            startTally();
             for (int i = 0; i < size; i++) {
-                tally[slotOf(list[i])]++;
+                countOne(slotOf(list[i]));
             }
             int best = NONE;
-            int bestShared = 0;
+            int bestShared = floor;
             for (int i = 0; i < size; i++) {
                 int shared = tally[slotOf(list[i])];
                 if (shared > bestShared) {
@@ -1148,7 +1165,6 @@ public final class SafeKnown {
                     bestShared = shared;
                 }
             }
-            clearTally(size);
             return best;
         }
 
@@ -1548,7 +1564,8 @@ public final class SafeKnown {
 
         boolean read() {
             Arrays.fill(clicks, 0);
-            for (wheel = 0; wheel < WHEELS; wheel++) {
+            for (int each = 0; each < WHEELS; each++) {
+                wheel = each;
                 tape.rewind();
                 lines = 0;
                 boolean more = tape.kind != Tape.END;
