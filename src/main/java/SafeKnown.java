@@ -1004,9 +1004,15 @@ public final class SafeKnown {
         final int[] tally;
         final int[] alike;
         final int[] needed;
+        final int[] leaders;
         int size;
         int third;
         int floor;
+        int greatest;
+        int greatestParts;
+        int best;
+        int bestPart;
+        boolean bestCan;
 
         Sieve(State state) {
             this.state = state;
@@ -1016,6 +1022,7 @@ public final class SafeKnown {
             tally = new int[2 * MOST_SOUND + 1];
             alike = new int[CODES * FEW];
             needed = new int[1 << FEW];
+            leaders = new int[WHEELS * SIDES];
         }
 
         void load(int person, int vault) {
@@ -1067,10 +1074,14 @@ public final class SafeKnown {
 
         /** Sums up the first two wheels of a turning ahead, as all codes are asked behind it. */
         private void face(int told) {
+            int[] clicks = state.clicks;
             int one = told / 36 * SIDES;
             int two = PER_WHEEL + told / 6 % 6 * SIDES;
-            for (int i = 0; i < pairs.length; i++) {
-                pairs[i] = state.clicks[one + i / SIDES] + state.clicks[two + i % SIDES] + MOST_SOUND;
+            for (int i = 0; i < SIDES; i++) {
+                int first = clicks[one + i] + MOST_SOUND;
+                for (int j = 0; j < SIDES; j++) {
+                    pairs[i * SIDES + j] = first + clicks[two + j];
+                }
             }
             third = 2 * PER_WHEEL + told % 6 * SIDES;
         }
@@ -1107,46 +1118,124 @@ public final class SafeKnown {
             return parts;
         }
 
-        /**
-         * How many codes the greatest part has, or the limit as soon as one part has so many. It is
-         * asked for each turning and each code by one call, so it counts without calls of its own.
-         */
+        /** How many codes the greatest part has, or the limit as soon as one part has so many. */
         int greatestPart(int told, int limit) {
             face(told);
             startTally();
-            int[] clicks = state.clicks;
-            int greatest = 0;
-            for (int i = 0; i < size && greatest < limit; i++) {
-                int code = list[i];
-                int part = 1;
-                if (code != told) {
-                    int slot = pairs[code / SIDES] + clicks[third + code % SIDES];
-                    int before = tally[slot];
-                    part = before > floor ? before - floor + 1 : 1;
-                    tally[slot] = floor + part;
-                }
-                if (part > greatest) {
-                    greatest = part;
-                }
+            int most = 0;
+            for (int i = 0; i < size && most < limit; i++) {
+                most = Math.max(most, list[i] == told ? 1 : countOne(slotOf(list[i])));
             }
-            return greatest;
+            return most;
         }
 
+        /**
+         * Turnings whose wheels differ by no more than how loud they are part alike, but for the one
+         * turned to; so the codes are parted once for all of them, by the least, their leader.
+         */
         int bestTurning() {
-            int best = 0;
-            int bestPart = CODES + 1;
-            boolean bestCan = false;
-            for (int told = 0; told < CODES && !(bestPart == 1 && bestCan); told++) {
-                // One that can be wins by the same part too, if none that can be was found.
-                int limit = can[told] && !bestCan ? bestPart + 1 : bestPart;
-                int part = greatestPart(told, limit);
-                if (part < limit) {
-                    best = told;
-                    bestPart = part;
-                    bestCan = can[told];
+            if (size == 1 || size == 2) {
+                return list[0];
+            }
+            findLeaders();
+            best = 0;
+            bestPart = CODES + 1;
+            bestCan = false;
+            for (int told = 0; told < CODES; told++) {
+                if (bestPart == 1 && bestCan && best < told) {
+                    return best;
+                }
+                // The one turned to makes a part less by one at most.
+                if (leads(told) && partAll(told, bestPart + 2)) {
+                    weighAlike(told / 36, told / 6 % 6, told % 6);
                 }
             }
             return best;
+        }
+
+        private void findLeaders() {
+            for (int wheel = 0; wheel < WHEELS; wheel++) {
+                for (int told = 0; told < SIDES; told++) {
+                    int least = 0;
+                    while (least < told && !soundsAlike(wheel, least, told)) {
+                        least++;
+                    }
+                    leaders[wheel * SIDES + told] = least;
+                }
+            }
+        }
+
+        /** Whether a wheel told one is as much louder than told the other whatever is in the code. */
+        private boolean soundsAlike(int wheel, int one, int other) {
+            int[] clicks = state.clicks;
+            int left = wheel * PER_WHEEL + one * SIDES;
+            int right = wheel * PER_WHEEL + other * SIDES;
+            for (int i = 1; i < SIDES; i++) {
+                if (clicks[left + i] - clicks[left] != clicks[right + i] - clicks[right]) {
+                    return false;
+                }
+            }
+            return true;
+        }
+
+        private boolean leads(int told) {
+            return leaders[told / 36] == told / 36
+                    && leaders[SIDES + told / 6 % 6] == told / 6 % 6
+                    && leaders[2 * SIDES + told % 6] == told % 6;
+        }
+
+        /**
+         * Parts all codes by sound alone; false as soon as a part has as many as the limit. It goes
+         * over all codes for all turnings, so it counts without calls of its own.
+         */
+        private boolean partAll(int told, int limit) {
+            face(told);
+            startTally();
+            int[] clicks = state.clicks;
+            int most = 0;
+            int parts = 0;
+            for (int i = 0; i < size && most < limit; i++) {
+                int code = list[i];
+                int slot = pairs[code / SIDES] + clicks[third + code % SIDES];
+                int before = tally[slot];
+                int part = before > floor ? before - floor + 1 : 1;
+                tally[slot] = floor + part;
+                if (part > most) {
+                    most = part;
+                    parts = 1;
+                } else if (part == most) {
+                    parts++;
+                }
+            }
+            greatest = most;
+            greatestParts = parts;
+            return most < limit;
+        }
+
+        private void weighAlike(int first, int second, int last) {
+            for (int one = first; one < SIDES; one++) {
+                for (int two = second; two < SIDES && leaders[one] == first; two++) {
+                    for (int three = last; three < SIDES && leaders[SIDES + two] == second; three++) {
+                        if (leaders[2 * SIDES + three] == last) {
+                            weigh(36 * one + 6 * two + three);
+                        }
+                    }
+                }
+            }
+        }
+
+        private void weigh(int told) {
+            boolean own = can[told];
+            int part = greatest;
+            if (own && greatestParts == 1 && part > 1 && tally[slotOf(told)] == floor + part) {
+                part--;
+            }
+            boolean firstOfSame = own == bestCan ? told < best : own;
+            if (part < bestPart || part == bestPart && firstOfSame) {
+                best = told;
+                bestPart = part;
+                bestCan = own;
+            }
         }
 
         /** Of the row the least code whose sound most of the row share. */
@@ -1156,16 +1245,16 @@ public final class SafeKnown {
             for (int i = 0; i < size; i++) {
                 countOne(slotOf(list[i]));
             }
-            int best = NONE;
-            int bestShared = floor;
+            int least = NONE;
+            int mostSoFar = floor;
             for (int i = 0; i < size; i++) {
                 int shared = tally[slotOf(list[i])];
-                if (shared > bestShared) {
-                    best = list[i];
-                    bestShared = shared;
+                if (shared > mostSoFar) {
+                    least = list[i];
+                    mostSoFar = shared;
                 }
             }
-            return best;
+            return least;
         }
 
         int turningsNeeded() {
