@@ -6,15 +6,21 @@ final class Check {
 
     private static int asked = 0;
     private static int wrong = 0;
+    private static String test = "";
 
     private Check() {
+    }
+
+    /** What is wrong from now on is told with this test's name. */
+    static void begin(String name) {
+        test = name.isEmpty() ? "" : name + ": ";
     }
 
     static void due(String what, long got, long want) {
         asked++;
         if (got != want) {
             wrong++;
-            System.out.println(what + " answered " + got + ", due is " + want);
+            System.out.println(test + what + " answered " + got + ", due is " + want);
         }
     }
 
@@ -28,11 +34,11 @@ final class Check {
         try {
             long got = call.go();
             wrong++;
-            System.out.println(what + " answered " + got + ", due is " + want.getSimpleName());
+            System.out.println(test + what + " answered " + got + ", due is " + want.getSimpleName());
         } catch (RuntimeException thrown) {
             if (thrown.getClass() != want) {
                 wrong++;
-                System.out.println(what + " threw " + thrown + ", due is " + want.getSimpleName());
+                System.out.println(test + what + " threw " + thrown + ", due is " + want.getSimpleName());
             }
         }
     }
@@ -40,7 +46,7 @@ final class Check {
     static void fail(String what) {
         asked++;
         wrong++;
-        System.out.println(what);
+        System.out.println(test + what);
     }
 
     static boolean hasWrong() {
