@@ -146,10 +146,10 @@ class Edges {
         return x;
     }
 
-    /** One vault that is now on a day; the bank must have no vault that a locksmith changes. */
+    /** From whatever day it is on to a later one. */
     static void goToDay(SafeKnown x, int day) {
-        for (int now = x.count(5); now < day; now = x.count(5)) {
-            x.days(Math.min(60, day - now));
+        for (int more = day - x.count(5); more > 0; more -= 60) {
+            x.days(Math.min(60, more));
         }
         due("day", x.count(5), day);
     }
@@ -183,6 +183,16 @@ class Edges {
         Check.refuses(what, want, () -> call.go(x));
         due("fault() behind " + what, x.fault(), NONE);
         same(what, shows(x), shows(busy()));
+    }
+
+    /** Calls that name one that is none: there are two vaults, two people and three contracts. */
+    static void needs(String name, On... calls) {
+        SafeKnown x = busy();
+        for (int i = 0; i < calls.length; i++) {
+            On call = calls[i];
+            Check.refuses(name + ", call " + i, INDEX, () -> call.go(x));
+        }
+        same("refused calls of " + name, shows(x), shows(busy()));
     }
 
     /** A call that answers and leaves all as it is. */

@@ -290,6 +290,18 @@ public final class Edges01To06Test extends Edges {
         due("no z comes back", x.bank(), 1);
     }
 
+    static void p03EndCutsWithinANumberAndAWord() {
+        SafeKnown x = new SafeKnown();
+        Check.lay(x, "change 12");
+        due("end(8)", x.end(8), true);
+        due("bank", x.bank(), 1);
+        due("the digit that is left", x.count(6), 1);
+        Check.lay(x, "personperson");
+        due("end(6)", x.end(6), true);
+        due("bank", x.bank(), 2);
+        due("the word that is left", x.count(1), 1);
+    }
+
     static void p03EndIsNoActAndLeavesAll() {
         answersAndNothing("end(7)", 0, x -> x.end(7) ? 1 : 0);
         answersAndNothing("end(-1)", 0, x -> x.end(-1) ? 1 : 0);
@@ -621,6 +633,10 @@ public final class Edges01To06Test extends Edges {
         Check.wrongBank(x, "perso", 0);
         Check.wrongBank(x, "personperson", 0);
         Check.wrongBank(x, "per son", 0);
+        Check.wrongBank(x, "personz", 0);
+        Check.wrongBank(x, "zperson", 0);
+        Check.wrongBank(x, "xerson", 0);
+        Check.wrongBank(x, "z", 0);
         Check.wrongBank(x, "personA", 6);
         Check.wrongBank(x, "Person", 0);
         Check.wrongBank(x, "vault 000 worths 1", 10);
@@ -651,9 +667,37 @@ public final class Edges01To06Test extends Edges {
         Check.wrongBank(x, "person ; ; person", 9);
     }
 
+    static void p04BankMoreMustCome() {
+        SafeKnown x = made(VAULT + ";person");
+        for (String ahead : new String[] {"vault", "vault 000", "vault 000 worth", VAULT + " guard", "never", "never 0",
+            "open", "open 0", "open 0 0", "open 0 0 by", "change", "person;", VAULT + ";"}) {
+            Check.wrongBank(x, ahead, ahead.length());
+            Check.wrongBank(x, ahead + "  ", ahead.length() + 2);
+        }
+        due("vaults", x.count(0), 1);
+        due("contracts", x.count(2), 0);
+        due("texts", x.count(3), 1);
+    }
+
+    static void p04BankThingsThatCannotStandThere() {
+        for (String ahead : new String[] {"", "vault ", "vault 000 ", "vault 000 worth ", VAULT + " ", VAULT + " guard ",
+            VAULT + " guard 1 ", "never ", "never 0 ", "never 0 0 ", "open ", "open 0 ", "open 0 0 ", "open 0 0 by ",
+            "open 0 0 by 1 ", "change ", "change 1 ", "person ", "person;"}) {
+            SafeKnown x = made(VAULT + ";person");
+            for (String wrong : new String[] {"x", "&", "persons", "bye", "Guard", "=", "click", "-1", "1000"}) {
+                Check.wrongBank(x, ahead + wrong, ahead.length());
+            }
+            due("vaults", x.count(0), 1);
+            due("people", x.count(1), 1);
+            due("contracts", x.count(2), 0);
+        }
+    }
+
     static void p04BankOf400Bytes() {
         SafeKnown x = made("change 9;" + blanks(385) + "person");
         due("the last six bytes hold", x.count(1), 1);
+        Check.bank(x, blanks(391) + "change 77");
+        due("the last two digits hold", x.count(6), 77);
         Check.wrongBank(x, blanks(399) + "x", 399);
         Check.wrongBank(x, "person;" + blanks(393), 400);
         Check.wrongBank(x, blanks(394) + "change", 400);
@@ -867,6 +911,42 @@ public final class Edges01To06Test extends Edges {
         due("all together", x.sound(0, 0), 7);
     }
 
+    static void p05LawAndBindsMoreThanOr() {
+        SafeKnown x = new SafeKnown();
+        Check.law(x, "click 1 if same or next and told<1");
+        due("same", x.click(0, 3, 3), 1);
+        due("next, told 0", x.click(0, 0, 1), 1);
+        due("next, told 1", x.click(0, 1, 2), 0);
+        Check.law(x, "click 1 if next and told<1 or same");
+        due("the last of two", x.click(0, 3, 3), 1);
+        due("the first of two", x.click(0, 0, 5), 1);
+        Check.law(x, "click 1 if same or next or told>4");
+        due("the first of three", x.click(0, 2, 2), 1);
+        due("the second of three", x.click(0, 2, 3), 1);
+        due("the third of three", x.click(0, 5, 2), 1);
+        due("none of three", x.click(0, 2, 5), 0);
+        Check.law(x, "click 1 if same and told<4 and 2<told");
+        due("all of three", x.click(0, 3, 3), 1);
+        due("not the second", x.click(0, 4, 4), 0);
+        due("not the third", x.click(0, 2, 2), 0);
+        Check.law(x, "click 1 if (same or next) and told<1");
+        due("in brackets", x.click(0, 3, 3), 0);
+    }
+
+    static void p05LawNotIsOfTheNextAtomAlone() {
+        SafeKnown x = new SafeKnown();
+        Check.law(x, "click 1 if not same and told<1");
+        due("not same, told 0", x.click(0, 0, 1), 1);
+        due("not same, told 1", x.click(0, 1, 2), 0);
+        due("same, told 1", x.click(0, 1, 1), 0);
+        Check.law(x, "click 1 if not same or told<1");
+        due("same, told 0", x.click(0, 0, 0), 1);
+        due("same, told 1", x.click(0, 1, 1), 0);
+        Check.law(x, "click 1 if not told<1+1");
+        due("not of a sum: 1", x.click(0, 1, 0), 0);
+        due("not of a sum: 2", x.click(0, 2, 0), 1);
+    }
+
     static void p05LawSoundMayBeBelow0() {
         SafeKnown x = made("vault 000 worth 1;person", repeated("mute 99", 12));
         due("a wheel", x.click(2, 5, 5), -1188);
@@ -877,6 +957,9 @@ public final class Edges01To06Test extends Edges {
         due("parts", x.parts(0, 0, 0, false), 2);
         Check.law(x, repeated("click 99", 12));
         due("the loudest of all", x.turn(0, 0, 7), 3564);
+        due("parts", x.parts(0, 0, 0, false), 2);
+        due("next", x.next(0, 0), 0);
+        due("quietest", x.quietest(0), 1);
         Check.law(x, repeated("mute 99 if wheel<1 and code<1;click 99 if wheel<1 and code>0", 6));
         due("from the one to the other", x.sound(0, 36) - x.sound(0, 0), 1188);
         due("parts", x.parts(0, 0, 1, true), 180);

@@ -134,15 +134,6 @@ public final class Edges07To18Test extends Edges {
 
     // ---- promises 8 to 10 ----
 
-    /** Calls on a person and a vault: two of each there are. */
-    private static void needsPersonAndVault(String name, On noPerson, On behindPeople, On noVault, On behindVaults) {
-        SafeKnown x = made("vault 000 worth 1;vault 000 worth 1;person;person");
-        refuses(name + " of person -1", INDEX, () -> noPerson.go(x));
-        refuses(name + " of person 2", INDEX, () -> behindPeople.go(x));
-        refuses(name + " of vault -1", INDEX, () -> noVault.go(x));
-        refuses(name + " of vault 2", INDEX, () -> behindVaults.go(x));
-    }
-
     static void p08LeftOfAllAndOfOne() {
         SafeKnown x = made("vault 123 worth 1;person");
         due("all at first", x.left(0, 0), 216);
@@ -167,7 +158,7 @@ public final class Edges07To18Test extends Edges {
         refuses("left(5, 6)", INDEX, () -> x.left(5, 6));
         refuses("left of the least", INDEX, () -> x.left(LEAST, 0));
         refuses("left of the most", INDEX, () -> x.left(0, MOST));
-        needsPersonAndVault("left", y -> y.left(-1, 0), y -> y.left(2, 0), y -> y.left(0, -1), y -> y.left(0, 2));
+        needs("left", y -> y.left(-1, 0), y -> y.left(2, 0), y -> y.left(0, -1), y -> y.left(0, 2));
     }
 
     static void p08LeftWithoutVaultsOrPeople() {
@@ -202,7 +193,7 @@ public final class Edges07To18Test extends Edges {
     }
 
     static void p09CodeOfNone() {
-        needsPersonAndVault("code", y -> y.code(-1, 0, 0), y -> y.code(2, 0, 0), y -> y.code(0, -1, 0),
+        needs("code", y -> y.code(-1, 0, 0), y -> y.code(2, 0, 0), y -> y.code(0, -1, 0),
                 y -> y.code(0, 2, 0));
         SafeKnown x = made("vault 000 worth 1;person");
         refuses("none of both, and no k", INDEX, () -> x.code(1, 1, -1));
@@ -213,10 +204,9 @@ public final class Edges07To18Test extends Edges {
         due("wheel 0", x.wheel(0, 0, 0, true), 63);
         due("wheel 2", x.wheel(0, 0, 2, true), 63);
         for (int none : new int[] {-1, 3, LEAST, MOST}) {
-            refuses("wheel " + none, INDEX, () -> x.wheel(0, 0, none, true));
-            refuses("sure of wheel " + none, INDEX, () -> x.wheel(0, 0, none, false));
+            needs("wheel", y -> y.wheel(0, 0, none, true), y -> y.wheel(0, 0, none, false));
         }
-        needsPersonAndVault("wheel", y -> y.wheel(-1, 0, 0, true), y -> y.wheel(2, 0, 0, true),
+        needs("wheel", y -> y.wheel(-1, 0, 0, true), y -> y.wheel(2, 0, 0, true),
                 y -> y.wheel(0, -1, 0, false), y -> y.wheel(0, 2, 0, false));
     }
 
@@ -236,6 +226,19 @@ public final class Edges07To18Test extends Edges {
         x.turn(0, 0, 11);
         due("sure of a 5", x.wheel(0, 0, 2, false), 5);
         due("a 5", x.wheel(0, 0, 2, true), 32);
+    }
+
+    static void p10WheelOfEachCode() {
+        SafeKnown x = made("vault 000 worth 1;person");
+        for (int code : new int[] {0, 5, 6, 34, 35, 36, 37, 70, 71, 72, 137, 179, 180, 210, 214, 215}) {
+            x.change(0, code);
+            x.turn(0, 0, code);
+            int[] sides = {code / 36, code / 6 % 6, code % 6};
+            for (int wheel = 0; wheel < 3; wheel++) {
+                due("sure of wheel " + wheel + " of " + code, x.wheel(0, 0, wheel, false), sides[wheel]);
+                due("wheel " + wheel + " of " + code, x.wheel(0, 0, wheel, true), 1 << sides[wheel]);
+            }
+        }
     }
 
     // ---- promises 11 and 12 ----
@@ -259,6 +262,31 @@ public final class Edges07To18Test extends Edges {
             refuses("code " + none, ARGUMENT, () -> x.click(2, 0, none));
         }
         refuses("no wheel ahead of the others", INDEX, () -> x.click(3, 6, 6));
+        refusedAndNothing("click(0, 6, 0)", ARGUMENT, y -> y.click(0, 6, 0));
+        refusedAndNothing("click(3, 0, 0)", INDEX, y -> y.click(3, 0, 0));
+    }
+
+    static void p12SoundOfEachCodeIsOfItsThreeWheels() {
+        for (int other : new int[] {0, 35, 36, 71, 137, 180, 215}) {
+            SafeKnown x = new SafeKnown();
+            Check.law(x, "click 1 if wheel<1 and told<code;click 10 if wheel>0 and wheel<2 and told<code;"
+                    + "click 50 if wheel>1 and told<code;mute 3 if same");
+            for (int code = 0; code < 216; code++) {
+                due("told " + other + ", code " + code, x.sound(other, code), byWheels(other, code));
+                due("told " + code + ", code " + other, x.sound(code, other), byWheels(code, other));
+            }
+        }
+    }
+
+    private static int byWheels(int told, int code) {
+        int sum = 0;
+        int[] loud = {1, 10, 50};
+        for (int wheel = 0; wheel < 3; wheel++) {
+            int one = figures(told).charAt(wheel) - '0';
+            int other = figures(code).charAt(wheel) - '0';
+            sum += one < other ? loud[wheel] : one == other ? -3 : 0;
+        }
+        return sum;
     }
 
     static void p12SoundFirstAndLast() {
@@ -268,8 +296,7 @@ public final class Edges07To18Test extends Edges {
         due("0 and 215", x.sound(0, 215), 0);
         due("5 and 0", x.sound(5, 0), 2);
         for (int none : new int[] {-1, 216, LEAST, MOST}) {
-            refuses("told " + none, INDEX, () -> x.sound(none, 0));
-            refuses("code " + none, INDEX, () -> x.sound(0, none));
+            needs("sound", y -> y.sound(none, 0), y -> y.sound(0, none));
         }
     }
 
@@ -283,7 +310,7 @@ public final class Edges07To18Test extends Edges {
         for (int none : new int[] {-1, 216, LEAST, MOST}) {
             refuses("to " + none, INDEX, () -> x.turn(0, 0, none));
         }
-        needsPersonAndVault("turn", y -> y.turn(-1, 0, 0), y -> y.turn(2, 0, 0), y -> y.turn(0, -1, 0),
+        needs("turn", y -> y.turn(-1, 0, 0), y -> y.turn(2, 0, 0), y -> y.turn(0, -1, 0),
                 y -> y.turn(0, 2, 0));
     }
 
@@ -363,6 +390,22 @@ public final class Edges07To18Test extends Edges {
         due("by that", x.log(0, 5), 1);
     }
 
+    static void p13TurnLeavesThoseOfTheSameSound() {
+        for (int told : new int[] {0, 5, 6, 35, 36, 41, 100, 137, 175, 180, 209, 215}) {
+            SafeKnown x = made("vault 345 worth 1;person", "click 1 if wheel<1 and told<code;"
+                    + "click 2 if wheel>0 and wheel<2 and told<code;click 4 if wheel>1 and told<code;mute 9 if next");
+            int heard = x.turn(0, 0, told);
+            int k = 0;
+            for (int code = 0; code < 216; code++) {
+                if (told == 137 ? code == told : code != told && x.sound(told, code) == heard) {
+                    due("told " + told + ", left " + k, x.code(0, 0, k), code);
+                    k++;
+                }
+            }
+            due("told " + told + ", left", x.left(0, 0), k);
+        }
+    }
+
     static void p13TurnTellsAllByOneSound() {
         SafeKnown x = made("vault 345 worth 1;person", BABBLER);
         due("3 is 5, 4 is 4, 5 is 3", x.turn(0, 0, 0), 5 * 36 + 4 * 6 + 3);
@@ -384,6 +427,20 @@ public final class Edges07To18Test extends Edges {
         refuses("tell(0, -1, 0)", INDEX, () -> x.tell(0, -1, 0));
         refuses("tell(0, 1, 2)", INDEX, () -> x.tell(0, 1, 2));
         refuses("tell(0, 1, -1)", INDEX, () -> x.tell(0, 1, -1));
+    }
+
+    static void p14TellOfOneVaultAlone() {
+        SafeKnown x = made(repeated("vault 000 worth 1", 6) + ";" + repeated("person", 6));
+        for (int vault = 0; vault < 6; vault++) {
+            x.turn(4, vault, 0);
+        }
+        for (int vault = 5; vault >= 0; vault--) {
+            due("of vault " + vault, x.tell(4, 5, vault), 1);
+            for (int other = 0; other < 6; other++) {
+                due("left of vault " + other, x.left(5, other), other < vault ? 216 : 1);
+                due("nobody else is told", x.left(3, other), 216);
+            }
+        }
     }
 
     static void p14TellOneself() {
@@ -427,7 +484,7 @@ public final class Edges07To18Test extends Edges {
         due("all can be", x.left(0, 0), 216);
         due("the last too", x.code(0, 0, 215), 215);
         due("still opened", x.vault(0, 3), 1);
-        needsPersonAndVault("forget", y -> y.forget(-1, 0), y -> y.forget(2, 0), y -> y.forget(0, -1),
+        needs("forget", y -> y.forget(-1, 0), y -> y.forget(2, 0), y -> y.forget(0, -1),
                 y -> y.forget(0, 2));
     }
 
@@ -610,6 +667,19 @@ public final class Edges07To18Test extends Edges {
         due("not opened", x.count(7), 0);
         due("forgotten", x.left(0, 0), 216);
         due("told anew", x.count(10), 1);
+    }
+
+    static void p18DaysThatTellNothingBehindDaysThatDid() {
+        SafeKnown x = made("vault 000 worth 1;vault 000 worth 1;person;change 100");
+        due("both told", x.days(1), 2);
+        Check.bank(x, "change 0");
+        int code = x.vault(1, 0);
+        x.turn(0, 1, code);
+        due("none told", x.days(1), 0);
+        due("code", x.vault(1, 0), code);
+        due("left", x.left(0, 1), 1);
+        due("opened", x.count(7), 2);
+        due("told anew in all", x.count(10), 2);
     }
 
     static void p18DaysWithoutAVaultDrawNothing() {

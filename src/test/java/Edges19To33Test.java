@@ -32,15 +32,6 @@ public final class Edges19To33Test extends Edges {
         return x;
     }
 
-    /** A text that has no contract yet, and calls for each kind of index that is none. */
-    private static void needs(String name, On... calls) {
-        SafeKnown x = made("vault 000 worth 1;vault 000 worth 1;person;person");
-        for (int i = 0; i < calls.length; i++) {
-            On call = calls[i];
-            refuses(name + ", call " + i, INDEX, () -> call.go(x));
-        }
-    }
-
     // ---- promise 19 ----
 
     static void p19PartsOfOneCode() {
@@ -124,10 +115,100 @@ public final class Edges19To33Test extends Edges {
         due("000 cannot be", x.next(0, 0), 0);
     }
 
+    static void p20NextEachCodeMayBeTheOne() {
+        for (int code = 0; code < 216; code++) {
+            StringBuilder law = new StringBuilder();
+            String[] wheels = {"click 1 if wheel<1", ";click 2 if wheel>0 and wheel<2", ";click 4 if wheel>1"};
+            for (int wheel = 0; wheel < 3; wheel++) {
+                char side = figures(code).charAt(wheel);
+                law.append(wheels[wheel]).append(" and not(told<").append(side).append(" or told>").append(side)
+                        .append(")and code<3");
+            }
+            // Each wheel tells halves if it is turned to that side alone: 27 codes in each of eight parts.
+            SafeKnown x = made("vault 000 worth 1;person", law.toString());
+            due("greatest part", x.parts(0, 0, code, true), 27);
+            due("next", x.next(0, 0), code);
+        }
+    }
+
+    static void p20NextTwoSidesThatPartUnlike() {
+        String told1 = "wheel>1 and told>0 and told<2";
+        SafeKnown x = made("vault 000 worth 1;person", "click 1 if wheel>1 and told<1 and code<4;click 1 if " + told1
+                + " and code>0;click 1 if " + told1 + " and code>0 and code<4");
+        due("000: four and two sides", x.parts(0, 0, 0, true), 143);
+        due("001: one, three and two sides", x.parts(0, 0, 1, true), 107);
+        due("001 parts more", x.next(0, 0), 1);
+        x = made("vault 000 worth 1;person", "click 1 if wheel>1 and told<1 and code<4;mute 1 if " + told1
+                + " and code<1;click 1 if " + told1 + " and code>0 and code<4");
+        due("000: four and two sides", x.parts(0, 0, 0, true), 143);
+        due("001: one, three and two sides, below 0", x.parts(0, 0, 1, true), 107);
+        due("001 parts more", x.next(0, 0), 1);
+    }
+
+    static void p20NextTheLesserOfTwoThatPartAll() {
+        // 000 and 005 part alike, but 005 alone can be; 003 parts as well, and is less.
+        SafeKnown x = made("vault 005 worth 1;person", HALF_DOZEN + ";click 4 if wheel>1 and code>2;"
+                + "click 8 if wheel>1 and(told<1 or told>4)and code>3;click 16 if wheel>1 and(told<1 or told>4)and code>4;"
+                + "click 32 if wheel>1 and told>2 and told<4 and code>4");
+        due("turn to 551", x.turn(0, 0, 211), 7);
+        due("3, 4 and 5 are left", x.left(0, 0), 3);
+        due("005 parts all", x.parts(0, 0, 5, true), 1);
+        due("003 parts all", x.parts(0, 0, 3, true), 1);
+        due("next", x.next(0, 0), 3);
+        dueNext("three left", x);
+    }
+
+    static void p20NextOfThreeByALaterOneThatPartsMore() {
+        SafeKnown x = made("vault 000 worth 1;person");
+        for (int code : new int[] {43, 86, 129, 172, 5}) {
+            x.turn(0, 0, code);
+        }
+        due("000, 055 and 505 are left", x.left(0, 0), 3);
+        due("000 leaves two", x.parts(0, 0, 0, true), 2);
+        due("010 leaves one", x.parts(0, 0, 6, true), 1);
+        due("next", x.next(0, 0), 6);
+        dueNext("three left", x);
+    }
+
     static void p20NextTheLeastOfThoseThatCanBe() {
         for (int first = 0; first < 12; first++) {
             due("from " + first + " on", leftFrom(first).next(0, 0), first);
         }
+    }
+
+    static void p20NextByThePartsOfAllTurnings() {
+        String[] laws = {"click 1 if same", "click 1 if same;click 3 if wheel<1 and next;mute 2 if wheel>1 and told<code",
+            "click 1 if wheel<1 and told<code;click 5 if wheel>0 and apart>1;click 7 if told>4",
+            "click 2 if wheel>0 and wheel<2 and told+code>5;click 3 if wheel>1 and same and told>1;mute 9 if wheel<1 and next",
+            "click 1 if wheel>1 and told<code;click 4 if wheel<2 and code<1", HALF_DOZEN, ALL_TOLD_BY_0};
+        for (String law : laws) {
+            for (int turned : new int[] {0, 100, 215}) {
+                SafeKnown x = made("vault 345 worth 1;person;person", law);
+                x.turn(0, 0, turned);
+                x.turn(0, 0, 140);
+                dueNext(law + ", turned to " + turned, x);
+                due("of one who knows nothing", x.next(1, 0), made("vault 000 worth 1;person", law).next(0, 0));
+            }
+        }
+    }
+
+    /** NEXT of person 0 at vault 0, by what parts() answers of all 216 turnings. */
+    private static void dueNext(String what, SafeKnown x) {
+        int best = NONE;
+        int bestPart = 217;
+        boolean bestCan = false;
+        int k = 0;
+        for (int told = 0; told < 216; told++) {
+            boolean can = x.code(0, 0, k) == told;
+            k += can ? 1 : 0;
+            int part = x.parts(0, 0, told, true);
+            if (part < bestPart || part == bestPart && can && !bestCan) {
+                best = told;
+                bestPart = part;
+                bestCan = can;
+            }
+        }
+        due("next by " + what, x.next(0, 0), best);
     }
 
     static void p20NextOfNone() {
@@ -207,6 +288,17 @@ public final class Edges19To33Test extends Edges {
         due("002, 004, and the last", x.worst(0, 0), 3);
     }
 
+    static void p22WorstByTheFirstCodeAlone() {
+        // Told 0, the third wheel tells 2 from 0 and 1: 000 is a part of its own, so it tells all.
+        SafeKnown x = made("vault 001 worth 1;person", HALF_DOZEN + ";click 4 if wheel>1 and code>2;"
+                + "click 8 if wheel>1 and told<1 and code>1");
+        due("turn to 551", x.turn(0, 0, 211), 3);
+        due("0, 1 and 2 are left", x.left(0, 0), 3);
+        due("000, then the code", x.worst(0, 0), 2);
+        due("next", x.next(0, 0), 0);
+        due("outright", x.outright(0, 0), 0);
+    }
+
     static void p22WorstOfOneIsOne() {
         due("the one that opens is counted", opened().worst(0, 0), 1);
     }
@@ -222,9 +314,7 @@ public final class Edges19To33Test extends Edges {
         SafeKnown x = new SafeKnown();
         due("by 000", x.quietest(0), 43);
         due("by 555", x.quietest(215), 0);
-        for (int none : new int[] {-1, 216, LEAST, MOST}) {
-            refuses("by " + none, INDEX, () -> x.quietest(none));
-        }
+        needs("quietest", y -> y.quietest(-1), y -> y.quietest(216), y -> y.quietest(LEAST), y -> y.quietest(MOST));
     }
 
     static void p23QuietestIsAnotherThanTheOneToldTo() {
@@ -240,6 +330,14 @@ public final class Edges19To33Test extends Edges {
         Check.law(x, "click 1 if wheel<1 and code<3");
         due("107 others below 300, 108 above", x.quietest(0), 108);
         due("108 below 300, 107 others above", x.quietest(108), 0);
+    }
+
+    static void p23QuietestByOneTurningBehindAnother() {
+        SafeKnown x = new SafeKnown();
+        Check.law(x, "click 1 if wheel<1 and told<1 and code<5;click 1 if wheel<1 and told>4 and code>2");
+        due("179 others below 500", x.quietest(0), 1);
+        due("108 below 300, 107 others above", x.quietest(180), 0);
+        due("and the first once more", x.quietest(0), 1);
     }
 
     static void p23QuietestOfSeveralTheLeast() {
@@ -265,6 +363,21 @@ public final class Edges19To33Test extends Edges {
         due("as loud by all codes", x.loudest(), 0);
         Check.law(x, "click 99 if told>4;click 1 if wheel<2 and told>0 and code>4");
         due("110: how loud it is told alone counts for nothing", x.loudest(), 42);
+    }
+
+    static void p24LoudestByEachWheelAlone() {
+        String[] wheels = {"wheel<1", "wheel>0 and wheel<2", "wheel>1"};
+        int[] worth = {36, 6, 1};
+        for (int wheel = 0; wheel < 3; wheel++) {
+            for (int told = 0; told < 6; told++) {
+                SafeKnown x = new SafeKnown();
+                int code = (told + wheel) % 6;
+                Check.law(x, "click 1 if " + wheels[wheel] + " and not (told<" + told + " or told>" + told
+                        + " or code<" + code + " or code>" + code + ")");
+                due("wheel " + wheel + " told " + told, x.loudest(), told * worth[wheel]);
+                due("deaf", x.deaf(), 7 & ~(1 << wheel));
+            }
+        }
     }
 
     static void p24LoudestGreatestLessLeast() {

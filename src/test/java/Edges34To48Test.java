@@ -15,15 +15,6 @@ public final class Edges34To48Test extends Edges {
         return made("vault 000 worth 1;person");
     }
 
-    /** Two vaults and two people, and calls that name one that is none. */
-    private static void needs(String name, On... calls) {
-        SafeKnown x = made("vault 000 worth 1;vault 000 worth 1;person;person");
-        for (int i = 0; i < calls.length; i++) {
-            On call = calls[i];
-            refuses(name + ", call " + i, INDEX, () -> call.go(x));
-        }
-    }
-
     // ---- promise 34 ----
 
     private static String week(int guards) {
@@ -187,6 +178,7 @@ public final class Edges34To48Test extends Edges {
         refuses("by the least", INDEX, () -> x.turned(0, LEAST));
         refuses("at a third", INDEX, () -> x.turned(2, NONE));
         refuses("at -1", INDEX, () -> x.turned(-1, NONE));
+        needs("turned", y -> y.turned(2, NONE), y -> y.turned(-1, 0), y -> y.turned(0, 2), y -> y.turned(0, -2));
     }
 
     static void p37TurnedByAllWithNobodyThere() {
@@ -353,6 +345,18 @@ public final class Edges34To48Test extends Edges {
         due("it is the same", x.trial(1, false), 0);
         due("told anew, though", x.trial(1, true), 1);
         due("it was known today", x.left(0, 0), 1);
+    }
+
+    static void p41TrialThatTellsNothingBehindDaysThatDid() {
+        SafeKnown x = toChange(2, 100);
+        x.days(1);
+        x.turn(0, 0, x.vault(0, 0));
+        x.turn(0, 1, x.vault(1, 0));
+        due("a day more", x.trial(1, true), 2);
+        due("no day", x.trial(0, true), 0);
+        due("no day: vaults", x.trial(0, false), 0);
+        Check.bank(x, "change 0");
+        due("nobody changes a code", x.trial(40, true), 0);
     }
 
     static void p41TrialWithNoneThere() {
